@@ -6,8 +6,13 @@ public final class PointBench {
     private static final long SIGN_BIT = 1L << (PART_BITS - 1);
     private static final int NUMBER_BITS = PARTS * PART_BITS;
     private static final int POINTS = 4;
-    private static final int WORKS_FOR_EACH_MODULUS = 4;
-    private static final int WORKS = 2 * WORKS_FOR_EACH_MODULUS;
+    /* The kinds of work, which are the same for P and, behind them, for N. */
+    private static final int KINDS = 4;
+    private static final int ADDING = 0;
+    private static final int SUBTRACTING = 1;
+    private static final int MULTIPLYING = 2;
+    private static final int INVERTING = 3;
+    private static final int WORKS = 2 * KINDS;
 
     /*
      * Inside, a number is a row of ten limbs of 26 bits, limb 0 the lowest. So short a limb leaves
@@ -23,6 +28,7 @@ public final class PointBench {
     private static final int LIMB_BITS = 26;
     private static final long LIMB_MASK = (1L << LIMB_BITS) - 1;
     private static final int TOP = LIMBS - 1;
+    private static final int WIDE_TOP = 2 * LIMBS - 1;
     /** How many bits of the highest limb lie below 2^256. */
     private static final int TOP_BITS = NUMBER_BITS - TOP * LIMB_BITS;
 
@@ -51,14 +57,11 @@ public final class PointBench {
         0x3C9BEBFL, 0x3685CCBL, 0x1FC4402L, 0x6542DDL, 0x1455123L};
     private static final long[] N_WRAP = {
         0x9BEBF0L, 0x285CCBFL, 0x3C4402DL, 0x2542DD7L, 0x551231L, 0x5L};
-    /** N_WRAP is half as long as a row, so what is folded once is still too long by far. */
-    private static final int P_FOLDS = 2;
-    private static final int N_FOLDS = 3;
 
     private final long[][] numbers = new long[NUMBERS][PARTS];
     private final Point[] points = new Point[POINTS];
-    private final Modulus field = new Modulus(P, P_LESS_TWO, P_REST, P_WRAP, P_FOLDS);
-    private final Modulus order = new Modulus(N, N_LESS_TWO, N_REST, N_WRAP, N_FOLDS);
+    private final Modulus field = new Modulus(P, P_LESS_TWO, P_REST, P_WRAP, false);
+    private final Modulus order = new Modulus(N, N_LESS_TWO, N_REST, N_WRAP, true);
     private final Point generator = new Point();
     private final RunningSum sum = new RunningSum(field);
 
@@ -94,7 +97,7 @@ public final class PointBench {
     public int compare(int r, int a) throws IllegalArgumentException {
         needNumber(r);
         needNumber(a);
-        return compareParts(numbers[r], numbers[a]);
+        return Parts.order(numbers[r], numbers[a]);
     }
 
     public boolean work(int what, int r, int a, int b) throws IllegalArgumentException {
@@ -102,26 +105,17 @@ public final class PointBench {
         needNumber(r);
         needNumber(a);
         needNumber(b);
-        Modulus modulus = what < WORKS_FOR_EACH_MODULUS ? field : order;
-        int kind = what % WORKS_FOR_EACH_MODULUS;
-        boolean inverts = kind == 3;
+        Modulus modulus = what < KINDS ? field : order;
+        int kind = what % KINDS;
         if (!modulus.isAbove(numbers[a])) {
             return false;
         }
-        if (inverts ? isZero(numbers[a]) : !modulus.isAbove(numbers[b])) {
+        if (kind == INVERTING ? Parts.areZero(numbers[a]) : !modulus.isAbove(numbers[b])) {
             return false;
         }
         Limbs.unpack(left, numbers[a]);
         Limbs.unpack(right, numbers[b]);
-        if (kind == 0) {
-            Limbs.plus(left, left, right);
-        } else if (kind == 1) {
-            Limbs.minus(left, left, right);
-        } else if (kind == 2) {
-            modulus.multiply(left, left, right);
-        } else {
-            modulus.invert(left, left);
-        }
+        workOnLeft(kind, modulus);
         modulus.settle(left);
         Limbs.pack(numbers[r], left);
         return true;
@@ -281,22 +275,20 @@ public final class PointBench {
         }
     }
 
-    private static int compareParts(long[] a, long[] b) {
-        for (int i = PARTS - 1; i >= 0; i--) {
-            if (a[i] != b[i]) {
-                // Parts have no sign: to turn the highest bit makes Java's order theirs.
-                return (a[i] ^ SIGN_BIT) < (b[i] ^ SIGN_BIT) ? -1 : 1;
-            }
+    private void workOnLeft(int kind, Modulus modulus) {
+        if (kind == ADDING) {
+            Limbs.plus(left, left, right);
+        } else if (kind == SUBTRACTING) {
+            Limbs.minus(left, left, right);
+        } else if (kind == MULTIPLYING) {
+            modulus.multiply(left, left, right);
+        } else {
+            modulus.invert(left, left);
         }
-        return 0;
-    }
-
-    private static boolean isZero(long[] parts) {
-        return compareParts(parts, ZERO) == 0;
     }
 
     private boolean isFromOneBelowN(long[] parts) {
-        return order.isAbove(parts) && !isZero(parts);
+        return order.isAbove(parts) && !Parts.areZero(parts);
     }
 
     /** The square that y must have on the curve: x x x + 7. */
@@ -329,12 +321,32 @@ public final class PointBench {
         Limbs.pack(parts, left);
     }
 
-    /** What is done with rows of limbs whatever the modulus; a result may be one of its sources. */
+    /** What is asked of a number in parts. */
+    private static final class Parts {
+        /** -1, 0, 1 as a is below, equal to, above b. */
+        static int order(long[] a, long[] b) {
+            for (int i = PARTS - 1; i >= 0; i--) {
+                if (a[i] != b[i]) {
+                    // Parts have no sign: to turn the highest bit makes Java's order theirs.
+                    return (a[i] ^ SIGN_BIT) < (b[i] ^ SIGN_BIT) ? -1 : 1;
+                }
+            }
+            return 0;
+        }
+
+        static boolean areZero(long[] parts) {
+            return order(parts, ZERO) == 0;
+        }
+
+        static boolean haveBit(long[] parts, int bit) {
+            return (parts[bit / PART_BITS] >>> (bit % PART_BITS) & 1L) != 0;
+        }
+    }
+
+    /** What is done with rows of limbs whatever the modulus; the result may be a source, too. */
     private static final class Limbs {
         static void copy(long[] to, long[] from) {
-            for (int i = 0; i < LIMBS; i++) {
-                to[i] = from[i];
-            }
+            System.arraycopy(from, 0, to, 0, LIMBS);
         }
 
         static void plus(long[] to, long[] a, long[] b) {
@@ -373,7 +385,7 @@ public final class PointBench {
             return true;
         }
 
-        /** Limbs from..to-1 become 0 .. LIMB_MASK; limb to takes the rest, which may be negative. */
+        /** Limbs from .. to - 1 become short; limb to takes the rest, which may be negative. */
         static void carry(long[] row, int from, int to) {
             long carried = 0;
             for (int i = from; i < to; i++) {
@@ -442,52 +454,57 @@ public final class PointBench {
             wide[16] = a7 * b9 + a8 * b8 + a9 * b7;
             wide[17] = a8 * b9 + a9 * b8;
             wide[18] = a9 * b9;
-            wide[19] = 0;
+            wide[WIDE_TOP] = 0;
         }
     }
 
     /**
-     * Arithmetic modulo P or N. A row is SETTLED if it is the one number from 0 to the modulus less
-     * 1 and each limb is from 0 to LIMB_MASK.
+     * Arithmetic modulo P or N. A row is SETTLED if its number is from 0 to the modulus less 1 and
+     * each of its limbs is from 0 to LIMB_MASK.
      */
     private static final class Modulus {
         private final long[] parts;
         private final long[] partsLessTwo;
         private final long[] rest;
         private final long[] wrap;
-        private final int folds;
-        private final long[] wide = new long[2 * LIMBS];
+        private final boolean isWrapLong;
+        private final long[] wide = new long[WIDE_TOP + 1];
         private final long[] trial = new long[LIMBS];
         private final long[] gap = new long[LIMBS];
-        private final long[] root = new long[LIMBS];
+        private final long[] factor = new long[LIMBS];
 
-        Modulus(long[] parts, long[] partsLessTwo, long[] rest, long[] wrap, int folds) {
+        Modulus(long[] parts, long[] partsLessTwo, long[] rest, long[] wrap,
+                boolean isWrapLong) {
             this.parts = parts;
             this.partsLessTwo = partsLessTwo;
             this.rest = rest;
             this.wrap = wrap;
-            this.folds = folds;
+            this.isWrapLong = isWrapLong;
         }
 
         boolean isAbove(long[] number) {
-            return compareParts(number, parts) < 0;
+            return Parts.order(number, parts) < 0;
         }
 
-        /** The result has weight 1, and limbs below the highest are not negative. */
+        /** The result has weight 1, and none of its limbs but the highest is negative. */
         void multiply(long[] to, long[] a, long[] b) {
             Limbs.product(wide, a, b);
             // A high limb must be short before it is multiplied; the low ones can wait.
-            Limbs.carry(wide, LIMBS, 2 * LIMBS - 1);
+            Limbs.carry(wide, LIMBS, WIDE_TOP);
             fold(LIMBS);
-            for (int round = 1; round < folds; round++) {
+            if (isWrapLong) {
+                // A long WRAP makes many high limbs again: these must be short, too.
                 Limbs.carry(wide, 0, TOP + wrap.length);
                 fold(wrap.length);
             }
+            // By now one long holds all that is left from 2^260 on, even multiplied.
+            Limbs.carry(wide, 0, LIMBS);
+            fold(1);
             Limbs.carry(wide, 0, TOP);
             Limbs.copy(to, wide);
         }
 
-        /** Takes the lowest limbs from 2^260 on, so many as told, down by what 2^260 leaves. */
+        /** Puts as many limbs from 2^260 on as told where they belong modulo the modulus. */
         private void fold(int high) {
             for (int i = 0; i < high; i++) {
                 long limb = wide[LIMBS + i];
@@ -500,13 +517,13 @@ public final class PointBench {
 
         /** to = a to the power that the parts tell. */
         void power(long[] to, long[] a, long[] exponent) {
-            Limbs.copy(root, a);
+            Limbs.copy(factor, a);
             Limbs.unpack(to, ZERO);
             to[0] = 1;
             for (int bit = NUMBER_BITS - 1; bit >= 0; bit--) {
                 multiply(to, to, to);
-                if (hasBit(exponent, bit)) {
-                    multiply(to, to, root);
+                if (Parts.haveBit(exponent, bit)) {
+                    multiply(to, to, factor);
                 }
             }
         }
@@ -531,7 +548,7 @@ public final class PointBench {
         /** Takes a row of any weight up to 100. */
         void settle(long[] row) {
             Limbs.carry(row, 0, TOP);
-            // The first leaves less than 2^256 too much or too little, by far; the second nothing.
+            // The first leaves what misses 0 .. 2^256 - 1 by little, if at all; the second hits.
             dropTop(row);
             dropTop(row);
             // A number not below the modulus is one that REST lifts to 2^256 or above.
@@ -546,7 +563,7 @@ public final class PointBench {
             }
         }
 
-        /** Takes as many times the modulus away as the row has 2^256. */
+        /** Takes the modulus away as many times as the row has 2^256. */
         private void dropTop(long[] row) {
             long count = row[TOP] >> TOP_BITS;
             row[TOP] -= count << TOP_BITS;
@@ -554,10 +571,6 @@ public final class PointBench {
                 row[j] += count * rest[j];
             }
             Limbs.carry(row, 0, TOP);
-        }
-
-        static boolean hasBit(long[] parts, int bit) {
-            return (parts[bit / PART_BITS] >>> (bit % PART_BITS) & 1L) != 0;
         }
     }
 
@@ -605,15 +618,15 @@ public final class PointBench {
             isNone = true;
         }
 
-        /** Becomes n times a and m times b in one, which spares half of the doublings. */
+        /** Becomes n times a + m times b, in one go, as that spares half of the doublings. */
         void gather(long[] n, Point a, long[] m, Point b) {
             clear();
             for (int bit = NUMBER_BITS - 1; bit >= 0; bit--) {
                 twice();
-                if (Modulus.hasBit(n, bit)) {
+                if (Parts.haveBit(n, bit)) {
                     join(a);
                 }
-                if (Modulus.hasBit(m, bit)) {
+                if (Parts.haveBit(m, bit)) {
                     join(b);
                 }
             }
@@ -666,7 +679,7 @@ public final class PointBench {
             Limbs.minus(y, y, cube);
         }
 
-        /** The slope is 3 x x by (2 y z). No y is 0 here: N is odd, so no point is its own other. */
+        /** The slope is 3 x x by (2 y z). As N is odd, no point has y 0, so z does not become 0. */
         private void twice() {
             if (isNone) {
                 return;

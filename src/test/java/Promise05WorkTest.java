@@ -15,6 +15,7 @@ public final class Promise05WorkTest {
         for (int i = 0; i < 3000; i++) {
             everyWork(Values.any(random), Values.any(random));
         }
+        productsNearAMultiple(random);
         resultMayBeASource();
         falseChangesNothing();
         wrongIndices();
@@ -50,6 +51,19 @@ public final class Promise05WorkTest {
         }
         BigInteger[] results = {a.add(b), a.subtract(b), a.multiply(b)};
         return results[what % 4].mod(modulus);
+    }
+
+    /** Products that are a little off a multiple of the modulus, where a reduction goes wrong. */
+    private static void productsNearAMultiple(Random random) {
+        for (BigInteger modulus : new BigInteger[] {Curve.P, Curve.N}) {
+            BigInteger rest = Curve.END.subtract(modulus);
+            for (int i = -20; i < 60; i++) {
+                BigInteger near = rest.multiply(Curve.big(i / 3)).add(Curve.big(i % 3 - 1));
+                BigInteger b = new BigInteger(255, random);
+                BigInteger a = near.multiply(b.modInverse(modulus)).mod(modulus);
+                everyWork(a, b);
+            }
+        }
     }
 
     private static void resultMayBeASource() {

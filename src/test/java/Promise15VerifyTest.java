@@ -16,6 +16,7 @@ public final class Promise15VerifyTest {
         }
         keysThatMeetG();
         sumIsNone();
+        noneIsNotOverlooked();
         xFromNOn();
         outOfRange();
         for (BigInteger edge : Values.edges()) {
@@ -104,6 +105,26 @@ public final class Promise15VerifyTest {
         fails("G and -G", verified(Curve.minus(Curve.G), Curve.ONE, Curve.ONE, Curve.ONE));
     }
 
+    /** Neither G's part alone nor what an earlier call found may stand in for the sum. */
+    private static void noneIsNotOverlooked() {
+        BigInteger k = Curve.big(88);
+        BigInteger s = Curve.big(5);
+        BigInteger r = Curve.multiple(k, Curve.G).x().mod(Curve.N);
+        BigInteger h = k.multiply(s);
+        fails("NONE where (h by s) G has r", verified(Curve.NONE, h, r, s));
+        Desk desk = new Desk();
+        BigInteger d = Curve.big(77);
+        desk.put(4, k.multiply(s).subtract(r.multiply(d)).mod(Curve.N));
+        desk.put(5, r);
+        desk.put(6, s);
+        desk.putPoint(1, Curve.multiple(d, Curve.G));
+        holds("a signature", desk.bench.verify(1, 4, 5, 6));
+        BigInteger other = desk.number(4).negate().multiply(r.modInverse(Curve.N)).mod(Curve.N);
+        desk.putPoint(2, Curve.multiple(other, Curve.G));
+        holds("a signature, again", desk.bench.verify(1, 4, 5, 6));
+        fails("what comes to NONE behind a signature", desk.bench.verify(2, 4, 5, 6));
+    }
+
     /** An x of N or above has r = x - N; only a key made for it brings such an x about. */
     private static void xFromNOn() {
         int seen = 0;
@@ -133,7 +154,8 @@ public final class Promise15VerifyTest {
         BigInteger r = signature[0];
         BigInteger s = signature[1];
         fails("NONE", verified(Curve.NONE, h, r, s));
-        for (BigInteger wrong : new BigInteger[] {Curve.ZERO, Curve.N, Curve.N.add(Curve.ONE), TOP}) {
+        BigInteger[] wrongs = {Curve.ZERO, Curve.N, Curve.N.add(Curve.ONE), TOP};
+        for (BigInteger wrong : wrongs) {
             fails("r " + wrong.toString(16), verified(key, h, wrong, s));
             fails("s " + wrong.toString(16), verified(key, h, r, wrong));
         }
