@@ -6,6 +6,8 @@ final class Curve {
     static final BigInteger ONE = BigInteger.ONE;
     static final BigInteger TWO = BigInteger.TWO;
     static final BigInteger END = ONE.shiftLeft(256);
+    /** The highest of all NUMBERS. */
+    static final BigInteger TOP = END.subtract(ONE);
     static final BigInteger P =
             END.subtract(ONE.shiftLeft(32)).subtract(BigInteger.valueOf(977));
     static final BigInteger N =

@@ -11,11 +11,27 @@ final class Model {
         Arrays.fill(points, Curve.NONE);
     }
 
+    /** What a desk shows: some 130 of its 512 calls. */
+    static Model of(Desk desk) {
+        Model model = new Model();
+        for (int r = 0; r < Desk.NUMBERS; r++) {
+            model.numbers[r] = desk.number(r);
+        }
+        for (int p = 0; p < Desk.POINTS; p++) {
+            model.points[p] = desk.point(p);
+        }
+        return model;
+    }
+
     void set(int r, int part, long value) {
         for (int bit = 0; bit < 64; bit++) {
             int at = 64 * part + bit;
             numbers[r] = (value >>> bit & 1) != 0 ? numbers[r].setBit(at) : numbers[r].clearBit(at);
         }
+    }
+
+    long get(int r, int part) {
+        return numbers[r].shiftRight(64 * part).longValue();
     }
 
     boolean work(int what, int r, int a, int b) {

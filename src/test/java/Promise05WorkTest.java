@@ -17,7 +17,12 @@ public final class Promise05WorkTest {
         }
         productsNearAMultiple(random);
         resultMayBeASource();
-        falseChangesNothing();
+        sumsAtTheModulus();
+        differencesAtZero();
+        productsAndInversesAtTheEdges();
+        belowTheModulusOrNot();
+        zeroHasNoInverse();
+        theOtherOfAnInverseDoesNotCount();
         wrongIndices();
         Checks.end();
     }
@@ -39,7 +44,7 @@ public final class Promise05WorkTest {
 
     /** Null where work must answer false. */
     static BigInteger due(int what, BigInteger a, BigInteger b) {
-        BigInteger modulus = what < 4 ? Curve.P : Curve.N;
+        BigInteger modulus = modulus(what);
         if (a.compareTo(modulus) >= 0) {
             return null;
         }
@@ -82,20 +87,124 @@ public final class Promise05WorkTest {
         }
     }
 
-    private static void falseChangesNothing() {
+    private static BigInteger modulus(int what) {
+        return what < 4 ? Curve.P : Curve.N;
+    }
+
+    /** Over NUMBERS that have all bits, so that none is left of what was there. */
+    private static void gives(int what, BigInteger a, BigInteger b, BigInteger due) {
+        Desk desk = new Desk();
+        desk.put(0, Curve.TOP);
+        desk.put(1, a);
+        desk.put(2, b);
+        String name = "work(" + what + ") of " + a.toString(16) + ", " + b.toString(16);
+        Checks.due(name, desk.bench.work(what, 0, 1, 2), true);
+        Checks.due("result of " + name, desk.number(0), due);
+    }
+
+    /** False, and nothing has changed, wherever the result was to be put. */
+    private static void denied(int what, BigInteger a, BigInteger b) {
+        for (int place : new int[] {0, 4, 5}) {
+            Desk desk = Desk.filled();
+            desk.put(4, a);
+            desk.put(5, b);
+            desk.denies("work(" + what + ", " + place + ") of " + a.toString(16) + ", "
+                    + b.toString(16), bench -> bench.work(what, place, 4, 5));
+        }
+    }
+
+    /** Around the modulus, around 2^256, and as high as sums go. */
+    private static void sumsAtTheModulus() {
+        for (int what : new int[] {0, 4}) {
+            BigInteger last = modulus(what).subtract(Curve.ONE);
+            BigInteger half = modulus(what).shiftRight(1);
+            BigInteger rest = Curve.END.subtract(modulus(what));
+            gives(what, Curve.ZERO, Curve.ZERO, Curve.ZERO);
+            gives(what, last, Curve.ZERO, last);
+            gives(what, half, half, last);
+            gives(what, last, Curve.ONE, Curve.ZERO);
+            gives(what, half, half.add(Curve.ONE), Curve.ZERO);
+            gives(what, last, Curve.TWO, Curve.ONE);
+            gives(what, last, rest, rest.subtract(Curve.ONE));
+            gives(what, last, rest.add(Curve.ONE), rest);
+            gives(what, last, rest.add(Curve.TWO), rest.add(Curve.ONE));
+            gives(what, last, last, last.subtract(Curve.ONE));
+        }
+    }
+
+    private static void differencesAtZero() {
+        for (int what : new int[] {1, 5}) {
+            BigInteger last = modulus(what).subtract(Curve.ONE);
+            gives(what, Curve.ONE, Curve.ZERO, Curve.ONE);
+            gives(what, Curve.ZERO, Curve.ZERO, Curve.ZERO);
+            gives(what, last, last, Curve.ZERO);
+            gives(what, Curve.ZERO, Curve.ONE, last);
+            gives(what, last.subtract(Curve.ONE), last, last);
+            gives(what, last, Curve.ZERO, last);
+            gives(what, Curve.ZERO, last, Curve.ONE);
+        }
+    }
+
+    private static void productsAndInversesAtTheEdges() {
+        for (int what : new int[] {2, 6}) {
+            BigInteger last = modulus(what).subtract(Curve.ONE);
+            BigInteger half = modulus(what).shiftRight(1);
+            gives(what, Curve.ZERO, last, Curve.ZERO);
+            gives(what, last, Curve.ZERO, Curve.ZERO);
+            gives(what, Curve.ONE, last, last);
+            gives(what, last, last, Curve.ONE);
+            gives(what, half, Curve.TWO, last);
+            gives(what, half.add(Curve.ONE), Curve.TWO, Curve.ONE);
+            int inverse = what + 1;
+            gives(inverse, Curve.ONE, Curve.ZERO, Curve.ONE);
+            gives(inverse, Curve.TWO, Curve.ZERO, half.add(Curve.ONE));
+            gives(inverse, half.add(Curve.ONE), Curve.ZERO, Curve.TWO);
+            gives(inverse, half, Curve.ZERO, last.subtract(Curve.ONE));
+            gives(inverse, last, Curve.ZERO, last);
+        }
+    }
+
+    private static void belowTheModulusOrNot() {
         for (int what = 0; what < WORKS; what++) {
-            int kind = what;
-            BigInteger modulus = what < 4 ? Curve.P : Curve.N;
-            Desk first = Desk.filled();
-            first.put(4, modulus);
-            first.denies("work(" + kind + ") of the modulus", b -> b.work(kind, 0, 4, 1));
-            Desk second = Desk.filled();
-            if (what % 4 == 3) {
-                second.put(4, Curve.ZERO);
-                second.denies("work(" + kind + ") of 0", b -> b.work(kind, 0, 4, 1));
-            } else {
-                second.put(4, modulus);
-                second.denies("work(" + kind + ") with the modulus", b -> b.work(kind, 0, 1, 4));
+            BigInteger last = modulus(what).subtract(Curve.ONE);
+            gives(what, last, Curve.ONE, due(what, last, Curve.ONE));
+            gives(what, Curve.ONE, last, due(what, Curve.ONE, last));
+            BigInteger[] wrongs = {modulus(what), modulus(what).add(Curve.ONE), Curve.TOP};
+            for (BigInteger wrong : wrongs) {
+                denied(what, wrong, Curve.ONE);
+                denied(what, wrong, wrong);
+                if (what % 4 != 3) {
+                    denied(what, Curve.ONE, wrong);
+                }
+            }
+        }
+        // From N on, but below P, a NUMBER will do for the one and not for the other.
+        for (int what = 0; what < 3; what++) {
+            gives(what, Curve.N, Curve.ONE, due(what, Curve.N, Curve.ONE));
+            denied(what + 4, Curve.P.subtract(Curve.ONE), Curve.ONE);
+            denied(what + 4, Curve.ONE, Curve.P.subtract(Curve.ONE));
+        }
+    }
+
+    private static void zeroHasNoInverse() {
+        for (int what : new int[] {3, 7}) {
+            denied(what, Curve.ZERO, Curve.ONE);
+            denied(what, Curve.ZERO, Curve.ZERO);
+            denied(what, Curve.ZERO, Curve.TOP);
+            for (int part = 0; part < Desk.PARTS; part++) {
+                BigInteger lowest = Curve.ONE.shiftLeft(64 * part);
+                gives(what, lowest, Curve.ZERO, lowest.modInverse(modulus(what)));
+            }
+        }
+    }
+
+    private static void theOtherOfAnInverseDoesNotCount() {
+        for (int what : new int[] {3, 7}) {
+            BigInteger m = modulus(what);
+            BigInteger due = m.shiftRight(1).add(Curve.ONE);
+            for (BigInteger b : new BigInteger[] {Curve.ZERO, m.subtract(Curve.ONE), m,
+                m.add(Curve.ONE), Curve.TOP}) {
+                gives(what, Curve.TWO, b, due);
             }
         }
     }

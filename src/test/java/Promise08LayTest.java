@@ -4,13 +4,17 @@ import java.math.BigInteger;
 public final class Promise08LayTest {
     public static void main(String[] args) {
         laysPoints();
+        outermostPoints();
         BigInteger x = Curve.G.x();
         BigInteger y = Curve.G.y();
-        denied("x and y one off", x, y.add(Curve.ONE));
-        denied("x one off and y", x.add(Curve.ONE), y);
+        denied("x and y one above", x, y.add(Curve.ONE));
+        denied("x and y one below", x, y.subtract(Curve.ONE));
+        denied("x one above and y", x.add(Curve.ONE), y);
+        denied("x one below and y", x.subtract(Curve.ONE), y);
         denied("y and x changed about", y, x);
         denied("0 and 0", Curve.ZERO, Curve.ZERO);
         denied("P and P", Curve.P, Curve.P);
+        denied("the highest of NUMBERS for both", Curve.TOP, Curve.TOP);
         coordinatesFromPOn();
         oneNumberForBoth();
         wrongIndices();
@@ -20,15 +24,38 @@ public final class Promise08LayTest {
     private static void laysPoints() {
         for (int n = 1; n < 40; n++) {
             Curve.Spot spot = Curve.multiple(Curve.big(n), Curve.G);
-            for (Curve.Spot each : new Curve.Spot[] {spot, Curve.minus(spot)}) {
-                Desk desk = new Desk();
-                desk.put(5, each.x());
-                desk.put(3, each.y());
-                Checks.due("lay of " + n + " G", desk.bench.lay(n % Desk.POINTS, 5, 3), true);
-                Checks.due("the POINT that was laid", desk.point(n % Desk.POINTS), each);
-                Checks.due("x behind lay", desk.number(5), each.x());
-                Checks.due("y behind lay", desk.number(3), each.y());
-            }
+            laid(n % Desk.POINTS, spot);
+            laid(n % Desk.POINTS, Curve.minus(spot));
+        }
+    }
+
+    private static void laid(int p, Curve.Spot spot) {
+        Desk desk = new Desk();
+        desk.put(5, spot.x());
+        desk.put(3, spot.y());
+        Checks.due("lay of " + spot, desk.bench.lay(p, 5, 3), true);
+        Checks.due("the POINT that was laid", desk.point(p), spot);
+        Checks.due("x behind lay", desk.number(5), spot.x());
+        Checks.due("y behind lay", desk.number(3), spot.y());
+    }
+
+    /** The lowest and the highest x and y of all points, and what lies beside them. */
+    private static void outermostPoints() {
+        Curve.Spot lowX = Curve.lifted(Curve.ONE, true);
+        laid(0, lowX);
+        denied("0 and the y of 1", Curve.ZERO, lowX.y());
+        Curve.Spot highX = Curve.lifted(Curve.P.subtract(Curve.big(3)), true);
+        laid(1, highX);
+        for (int beyond = -2; beyond < 2; beyond++) {
+            denied("P + " + beyond, Curve.P.add(Curve.big(beyond)), highX.y());
+        }
+        Curve.Spot lowY = Values.withY(Curve.ONE);
+        laid(2, lowY);
+        laid(3, Curve.minus(lowY));
+        BigInteger[] wrongs = {Curve.ZERO, Curve.TWO, Curve.P.subtract(Curve.TWO), Curve.P,
+            Curve.P.add(Curve.ONE), Curve.TOP};
+        for (BigInteger wrong : wrongs) {
+            denied("the x of 1 and " + wrong.toString(16), lowY.x(), wrong);
         }
     }
 
@@ -47,24 +74,10 @@ public final class Promise08LayTest {
                 denied("x + P and y", spot.x().add(Curve.P), spot.y());
             }
         }
-        Curve.Spot low = pointWithLowY();
+        Curve.Spot top = Curve.lifted(Curve.TOP.subtract(Curve.P), true);
+        denied("x + P, the highest of NUMBERS, and y", Curve.TOP, top.y());
+        Curve.Spot low = Values.withY(Curve.ONE);
         denied("x and y + P", low.x(), low.y().add(Curve.P));
-        Desk desk = new Desk();
-        desk.putPoint(1, low);
-        Checks.due("POINT with a low y", desk.point(1), low);
-    }
-
-    /** y y - 7 is a cube for a third of all y; as P is 7 modulo 9, this power is a cube root. */
-    private static Curve.Spot pointWithLowY() {
-        BigInteger power = Curve.P.add(Curve.TWO).divide(Curve.big(9));
-        for (int y = 1; y < 1000; y++) {
-            BigInteger cube = Curve.big((long) y * y - 7).mod(Curve.P);
-            BigInteger x = cube.modPow(power, Curve.P);
-            if (Curve.holds(x, Curve.big(y))) {
-                return new Curve.Spot(x, Curve.big(y));
-            }
-        }
-        throw new IllegalStateException("no point with a low y");
     }
 
     private static void oneNumberForBoth() {

@@ -14,12 +14,29 @@ public final class Promise10ShowTest {
                 Checks.due("the POINT behind show", desk.point(3), spot);
             }
         }
+        lowAndHighOverFullNumbers();
+        Desk.filled().denies("show of one NUMBER for both of NONE",
+                bench -> bench.show(3, 7, 7));
         Desk.filled().denies("show of NONE", bench -> bench.show(3, 0, 1));
         Desk desk = Desk.filled();
         desk.bench.none(0);
         desk.denies("show of what has become NONE", bench -> bench.show(0, 0, 1));
         wrongIndices();
         Checks.end();
+    }
+
+    /** A low x or y has PARTS that are 0, and these are put, too. */
+    private static void lowAndHighOverFullNumbers() {
+        for (Curve.Spot spot : Values.edgePoints()) {
+            Desk desk = new Desk();
+            desk.putPoint(2, spot);
+            desk.put(0, Curve.TOP);
+            desk.put(7, Curve.TOP);
+            boolean is = !spot.equals(Curve.NONE);
+            Checks.due("show of " + spot, desk.bench.show(2, 7, 0), is);
+            Checks.due("x of " + spot, desk.number(7), is ? spot.x() : Curve.TOP);
+            Checks.due("y of " + spot, desk.number(0), is ? spot.y() : Curve.TOP);
+        }
     }
 
     /** Each for a POINT that is there and for NONE. */

@@ -15,6 +15,12 @@ public final class Promise11AddTest {
         sums(g, three);
         sums(three, Curve.minus(g));
         sameYOtherX(g);
+        for (Curve.Spot a : Values.edgePoints()) {
+            for (Curve.Spot b : Values.edgePoints()) {
+                sums(a, b);
+            }
+        }
+        noneIsKept();
         Random random = new Random(11);
         for (int i = 0; i < 60; i++) {
             Curve.Spot a = Curve.multiple(new BigInteger(256, random), g);
@@ -51,6 +57,21 @@ public final class Promise11AddTest {
         Curve.Spot b = new Curve.Spot(a.x().multiply(third).mod(Curve.P), a.y());
         sums(a, b);
         sums(a, Curve.minus(b));
+    }
+
+    /** What has come to NONE is NONE for all that follows. */
+    private static void noneIsKept() {
+        Desk desk = new Desk();
+        desk.bench.base(0);
+        desk.putPoint(1, Curve.minus(Curve.G));
+        desk.bench.add(0, 0, 1);
+        Checks.due("G and -G, put for G", desk.point(0), Curve.NONE);
+        desk.bench.add(2, 0, 0);
+        Checks.due("NONE with itself", desk.point(2), Curve.NONE);
+        desk.bench.add(2, 0, 1);
+        Checks.due("what came to NONE with -G", desk.point(2), Curve.minus(Curve.G));
+        desk.bench.add(2, 2, 0);
+        Checks.due("-G with what came to NONE", desk.point(2), Curve.minus(Curve.G));
     }
 
     private static void everyPlace() {

@@ -19,6 +19,9 @@ public final class Promise12TimesTest {
         for (int i = 0; i < 60; i++) {
             multiplies(Values.any(random), Curve.multiple(Values.any(random), Curve.G));
         }
+        for (Curve.Spot spot : Values.edgePoints()) {
+            aroundN(spot);
+        }
         namedAnswers();
         resultMayBeTheSource();
         wrongIndices();
@@ -34,6 +37,29 @@ public final class Promise12TimesTest {
         Checks.due(n.toString(16) + " times " + a, desk.point(2), Curve.multiple(n, a));
         Checks.due("the NUMBER behind times", desk.number(6), n);
         Checks.due("the POINT behind times", desk.point(1), a);
+    }
+
+    /** "any, also N or above": N times whatever POINT is NONE, and then it begins again. */
+    private static void aroundN(Curve.Spot a) {
+        Curve.Spot twice = Curve.sum(a, a);
+        times(Curve.ZERO, a, Curve.NONE);
+        times(Curve.ONE, a, a);
+        times(Curve.TWO, a, twice);
+        times(Curve.N.subtract(Curve.TWO), a, Curve.minus(twice));
+        times(Curve.N.subtract(Curve.ONE), a, Curve.minus(a));
+        times(Curve.N, a, Curve.NONE);
+        times(Curve.N.add(Curve.ONE), a, a);
+        times(Curve.N.add(Curve.TWO), a, twice);
+        times(Curve.TOP, a, Curve.multiple(Curve.TOP.subtract(Curve.N), a));
+    }
+
+    private static void times(BigInteger n, Curve.Spot a, Curve.Spot due) {
+        Desk desk = new Desk();
+        desk.put(0, n);
+        desk.putPoint(0, a);
+        desk.bench.base(3);
+        desk.bench.times(3, 0, 0);
+        Checks.due(n.toString(16) + " times " + a, desk.point(3), due);
     }
 
     /** What the document says of N, and two multiples that are known from elsewhere. */

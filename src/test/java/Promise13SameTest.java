@@ -20,12 +20,34 @@ public final class Promise13SameTest {
             }
         }
         whatComesByOtherWays();
+        noneHidesWhatItWas();
+        for (Curve.Spot a : Values.edgePoints()) {
+            for (Curve.Spot b : Values.edgePoints()) {
+                Desk desk = new Desk();
+                desk.putPoint(0, a);
+                desk.putPoint(3, b);
+                Checks.due("same of " + a + ", " + b, desk.bench.same(0, 3), a.equals(b));
+            }
+        }
         for (int p : Desk.NOT_FOUR) {
             Desk.refuses("same(" + p + ", 0)", bench -> bench.same(p, 0));
             Desk.refuses("same(0, " + p + ")", bench -> bench.same(0, p));
             Desk.refuses("same(" + p + ", " + p + ")", bench -> bench.same(p, p));
         }
         Checks.end();
+    }
+
+    private static void noneHidesWhatItWas() {
+        PointBench bench = new PointBench();
+        bench.base(0);
+        bench.base(1);
+        bench.none(1);
+        Checks.due("same of G and what was G", bench.same(0, 1), false);
+        Checks.due("same of what was G and G", bench.same(1, 0), false);
+        bench.add(0, 0, 0);
+        bench.none(0);
+        Checks.due("same of two that were not the same", bench.same(0, 1), true);
+        Checks.due("same of what was G and what was nothing", bench.same(1, 2), true);
     }
 
     private static void whatComesByOtherWays() {

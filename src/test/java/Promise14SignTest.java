@@ -17,10 +17,13 @@ public final class Promise14SignTest {
         }
         sMayBeZero();
         everyPlace();
+        lowestAndHighest();
+        digestMayBeAny();
         for (BigInteger wrong : new BigInteger[] {Curve.ZERO, Curve.N, Curve.N.add(Curve.ONE),
-            Curve.END.subtract(Curve.ONE)}) {
+            Curve.P, Curve.TOP}) {
             falseChangesNothing(wrong, Curve.ONE);
             falseChangesNothing(Curve.ONE, wrong);
+            falseChangesNothing(wrong, wrong);
         }
         wrongIndices();
         Checks.end();
@@ -70,6 +73,40 @@ public final class Promise14SignTest {
         Checks.due("a POINT behind " + name, desk.point(1), Curve.G);
     }
 
+    private static void gives(BigInteger d, BigInteger k, BigInteger h, BigInteger r,
+            BigInteger s) {
+        Desk desk = new Desk();
+        desk.put(0, d);
+        desk.put(6, k);
+        desk.put(7, h);
+        desk.put(3, Curve.TOP);
+        desk.put(4, Curve.TOP);
+        String name = "sign of " + d.toString(16) + ", " + k.toString(16) + ", " + h.toString(16);
+        Checks.due(name, desk.bench.sign(3, 4, 0, 6, 7), true);
+        Checks.due("r of " + name, desk.number(3), r);
+        Checks.due("s of " + name, desk.number(4), s);
+    }
+
+    /** d and k are from 1 to N - 1. */
+    private static void lowestAndHighest() {
+        BigInteger x = Curve.G.x();
+        BigInteger last = Curve.N.subtract(Curve.ONE);
+        BigInteger minusX = Curve.N.subtract(x);
+        gives(Curve.ONE, Curve.ONE, Curve.ZERO, x, x);
+        gives(last, Curve.ONE, Curve.ZERO, x, minusX);
+        gives(Curve.ONE, last, Curve.ZERO, x, minusX);
+        gives(last, last, Curve.ZERO, x, x);
+    }
+
+    private static void digestMayBeAny() {
+        BigInteger x = Curve.G.x();
+        gives(Curve.ONE, Curve.ONE, Curve.ONE, x, x.add(Curve.ONE));
+        gives(Curve.ONE, Curve.ONE, Curve.N.subtract(Curve.ONE), x, x.subtract(Curve.ONE));
+        gives(Curve.ONE, Curve.ONE, Curve.N, x, x);
+        gives(Curve.ONE, Curve.ONE, Curve.N.add(Curve.ONE), x, x.add(Curve.ONE));
+        gives(Curve.ONE, Curve.ONE, Curve.TOP, x, x.add(Curve.TOP.subtract(Curve.N)));
+    }
+
     private static void sMayBeZero() {
         BigInteger d = Curve.big(12345);
         BigInteger k = Curve.big(678);
@@ -105,11 +142,14 @@ public final class Promise14SignTest {
     }
 
     private static void falseChangesNothing(BigInteger d, BigInteger k) {
-        Desk desk = Desk.filled();
-        desk.put(2, d);
-        desk.put(3, k);
-        desk.denies("sign of " + d.toString(16) + ", " + k.toString(16),
-                bench -> bench.sign(0, 1, 2, 3, 4));
+        int[][] places = {{0, 1}, {2, 3}, {4, 4}};
+        for (int[] place : places) {
+            Desk desk = Desk.filled();
+            desk.put(2, d);
+            desk.put(3, k);
+            desk.denies("sign of " + d.toString(16) + ", " + k.toString(16),
+                    bench -> bench.sign(place[0], place[1], 2, 3, 4));
+        }
     }
 
     private static void wrongIndices() {

@@ -3,8 +3,6 @@ import java.util.Random;
 
 /** Promise 15: verify tells whether the x of (h by s) G + (r by s) K is r modulo N. */
 public final class Promise15VerifyTest {
-    private static final BigInteger TOP = Curve.END.subtract(Curve.ONE);
-
     public static void main(String[] args) {
         Random random = new Random(15);
         for (int i = 0; i < 12; i++) {
@@ -18,6 +16,10 @@ public final class Promise15VerifyTest {
         sumIsNone();
         noneIsNotOverlooked();
         xFromNOn();
+        xOfN();
+        rFromOneToNLessOne();
+        sFromOneToNLessOne();
+        everyPlace();
         outOfRange();
         for (BigInteger edge : Values.edges()) {
             asDue(Curve.multiple(Curve.big(5), Curve.G), Curve.big(3), edge, Curve.big(9));
@@ -125,6 +127,89 @@ public final class Promise15VerifyTest {
         fails("what comes to NONE behind a signature", desk.bench.verify(2, 4, 5, 6));
     }
 
+    /** The key with which h, r and s come to this end. */
+    private static Curve.Spot keyFor(Curve.Spot end, BigInteger h, BigInteger r, BigInteger s) {
+        BigInteger byS = s.modInverse(Curve.N);
+        Curve.Spot ofG = Curve.multiple(h.multiply(byS).mod(Curve.N), Curve.G);
+        return Curve.multiple(s.multiply(r.modInverse(Curve.N)).mod(Curve.N),
+                Curve.sum(end, Curve.minus(ofG)));
+    }
+
+    /** The curve has a point whose x is N, which is 0 modulo N: no r will do for it. */
+    private static void xOfN() {
+        Curve.Spot end = Curve.lifted(Curve.N, true);
+        Checks.due("that N is the x of a point", end.equals(Curve.NONE), false);
+        BigInteger h = Curve.big(31);
+        BigInteger s = Curve.big(32);
+        for (BigInteger r : new BigInteger[] {Curve.ONE, Curve.N.subtract(Curve.ONE)}) {
+            Curve.Spot key = keyFor(end, h, r, s);
+            fails("an x of N and r " + r.toString(16), verified(key, h, r, s));
+            fails("an x of N and r 0", verified(key, h, Curve.ZERO, s));
+            fails("an x of N and r N", verified(key, h, Curve.N, s));
+        }
+    }
+
+    /** As N - 1 is the x of no point, N - 2 is the highest r that any signature has. */
+    private static void rFromOneToNLessOne() {
+        BigInteger h = Curve.big(41);
+        BigInteger s = Curve.big(42);
+        BigInteger[] xs = {Curve.ONE, Curve.TWO, Curve.N.subtract(Curve.TWO),
+            Curve.N.add(Curve.TWO), Curve.P.subtract(Curve.big(3))};
+        for (BigInteger x : xs) {
+            BigInteger r = x.mod(Curve.N);
+            Curve.Spot key = keyFor(Curve.lifted(x, false), h, r, s);
+            holds("an x of " + x.toString(16), verified(key, h, r, s));
+            fails("r one above x", verified(key, h, r.add(Curve.ONE), s));
+            fails("r one below x", verified(key, h, r.subtract(Curve.ONE), s));
+            fails("r 0", verified(key, h, Curve.ZERO, s));
+            fails("r N", verified(key, h, Curve.N, s));
+        }
+        Curve.Spot key = keyFor(Curve.lifted(Curve.ONE, true), h, Curve.ONE, s);
+        holds("r 1", verified(key, h, Curve.ONE, s));
+        fails("r N + 1", verified(key, h, Curve.N.add(Curve.ONE), s));
+        asDue(key, h, Curve.N.subtract(Curve.ONE), s);
+    }
+
+    private static void sFromOneToNLessOne() {
+        Curve.Spot end = Curve.multiple(Curve.big(88), Curve.G);
+        BigInteger r = end.x().mod(Curve.N);
+        BigInteger h = Curve.big(51);
+        BigInteger last = Curve.N.subtract(Curve.ONE);
+        Curve.Spot key = keyFor(end, h, r, Curve.ONE);
+        holds("s 1", verified(key, h, r, Curve.ONE));
+        holds("s N - 1", verified(key, h, r, last));
+        fails("s 0", verified(key, h, r, Curve.ZERO));
+        fails("s 2", verified(key, h, r, Curve.TWO));
+        fails("s N - 2", verified(key, h, r, last.subtract(Curve.ONE)));
+        fails("s N", verified(key, h, r, Curve.N));
+        fails("s N + 1", verified(key, h, r, Curve.N.add(Curve.ONE)));
+        fails("the highest of NUMBERS for s", verified(key, h, r, Curve.TOP));
+    }
+
+    /** Wherever a signature stands, even with one NUMBER for more than one of its parts. */
+    private static void everyPlace() {
+        BigInteger k = Curve.big(61);
+        BigInteger r = Curve.multiple(k, Curve.G).x().mod(Curve.N);
+        Curve.Spot end = Curve.multiple(k, Curve.G);
+        int[][] places = {{0, 3, 7}, {7, 0, 3}, {3, 7, 0}, {0, 0, 7}, {7, 0, 0}, {0, 7, 0},
+            {7, 7, 7}, {0, 0, 0}};
+        for (int[] at : places) {
+            BigInteger h = at[0] == at[1] || at[0] == at[2] ? r : Curve.big(62);
+            BigInteger s = at[2] == at[1] || at[2] == at[0] ? r : Curve.big(63);
+            for (int p = 0; p < Desk.POINTS; p++) {
+                Desk desk = Desk.filled();
+                desk.put(at[0], h);
+                desk.put(at[2], s);
+                desk.put(at[1], r);
+                desk.putPoint(p, keyFor(end, h, r, s));
+                String before = desk.state();
+                String name = p + java.util.Arrays.toString(at);
+                holds("a signature at " + name, desk.bench.verify(p, at[0], at[1], at[2]));
+                Checks.due("the state behind verify " + name, desk.state(), before);
+            }
+        }
+    }
+
     /** An x of N or above has r = x - N; only a key made for it brings such an x about. */
     private static void xFromNOn() {
         int seen = 0;
@@ -137,10 +222,7 @@ public final class Promise15VerifyTest {
             seen++;
             BigInteger h = Curve.big(1000 + low);
             BigInteger s = Curve.big(2000 + low);
-            BigInteger byS = s.modInverse(Curve.N);
-            Curve.Spot ofG = Curve.multiple(h.multiply(byS).mod(Curve.N), Curve.G);
-            Curve.Spot key = Curve.multiple(s.multiply(r.modInverse(Curve.N)).mod(Curve.N),
-                    Curve.sum(end, Curve.minus(ofG)));
+            Curve.Spot key = keyFor(end, h, r, s);
             holds("an x of N + " + low, verified(key, h, r, s));
             fails("r not below N, though it is x", verified(key, h, r.add(Curve.N), s));
         }
@@ -154,7 +236,7 @@ public final class Promise15VerifyTest {
         BigInteger r = signature[0];
         BigInteger s = signature[1];
         fails("NONE", verified(Curve.NONE, h, r, s));
-        BigInteger[] wrongs = {Curve.ZERO, Curve.N, Curve.N.add(Curve.ONE), TOP};
+        BigInteger[] wrongs = {Curve.ZERO, Curve.N, Curve.N.add(Curve.ONE), Curve.TOP};
         for (BigInteger wrong : wrongs) {
             fails("r " + wrong.toString(16), verified(key, h, wrong, s));
             fails("s " + wrong.toString(16), verified(key, h, r, wrong));
@@ -175,6 +257,14 @@ public final class Promise15VerifyTest {
         desk.bench.verify(0, 1, 2, 3);
         Checks.due("the state behind verify", desk.state(), before);
         Desk.filled().denies("verify of NONE", bench -> bench.verify(3, 1, 2, 3));
+        for (BigInteger wrong : new BigInteger[] {Curve.ZERO, Curve.N, Curve.TOP}) {
+            Desk out = Desk.filled();
+            out.put(2, wrong);
+            out.denies("verify, r out of range", bench -> bench.verify(0, 1, 2, 3));
+            Desk beyond = Desk.filled();
+            beyond.put(3, wrong);
+            beyond.denies("verify, s out of range", bench -> bench.verify(0, 1, 2, 3));
+        }
     }
 
     private static void wrongIndices() {
