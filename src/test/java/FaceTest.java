@@ -29,6 +29,9 @@ public final class FaceTest {
     public static void main(String[] args) {
         Class<?> face = PointBench.class;
         Checks.due("the class's modifiers", face.getModifiers(), Modifier.PUBLIC | Modifier.FINAL);
+        Checks.due("what the class extends", face.getSuperclass(), Object.class);
+        Checks.due("how much the class implements", face.getInterfaces().length, 0);
+        Checks.due("the class's package", face.getPackageName(), "");
         Constructor<?>[] constructors = face.getDeclaredConstructors();
         Checks.due("constructors", constructors.length, 1);
         Checks.due("the constructor", constructors[0].toGenericString(), "public PointBench()");

@@ -23,6 +23,9 @@ public final class Promise12TimesTest {
             aroundN(spot);
         }
         namedAnswers();
+        for (Curve.Spot spot : Values.edgePoints()) {
+            isTheSumOfSoMany(spot);
+        }
         resultMayBeTheSource();
         wrongIndices();
         Checks.end();
@@ -80,6 +83,18 @@ public final class Promise12TimesTest {
         desk.bench.base(0);
         desk.bench.times(0, 0, 0);
         Checks.due(n.toString(16) + " times G", desk.point(0), due);
+    }
+
+    /** "n times a POINT is the sum of n of it": as the object itself adds them. */
+    private static void isTheSumOfSoMany(Curve.Spot a) {
+        Desk desk = new Desk();
+        desk.putPoint(0, a);
+        for (int n = 0; n < 70; n++) {
+            desk.bench.set(7, 0, n);
+            desk.bench.times(2, 7, 0);
+            Checks.due(n + " times " + a + " is the sum of so many", desk.bench.same(2, 1), true);
+            desk.bench.add(1, 1, 0);
+        }
     }
 
     private static void resultMayBeTheSource() {
